@@ -579,8 +579,6 @@ public final class DeskPlanner {
                     tryAt(office, team, zone, cost);
                 }
             }
-            // A team that is not there must be in no zone, in the kept placements too.
-            trial.lay(team, NONE);
         }
 
         private void tryAt(Office office, int team, int zone, int costBefore) {

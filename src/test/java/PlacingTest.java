@@ -256,6 +256,10 @@ public final class PlacingTest {
         Offices.layAnew(p, -1, -1, -1, -1, -1, -1, -1);
         Check.equal("the only one best", p.placeBest(), 693);
         Check.equal("its placement", Offices.placement(p), "6 5 4 3 2 1 0");
+        Check.equal("remember all", p.remember(), 7);
+        Offices.layAnew(p, -1, -1, -1, -1, -1, -1, -1);
+        Check.equal("recall all", p.recall(), 7);
+        Check.equal("its placement", Offices.placement(p), "6 5 4 3 2 1 0");
     }
 
     private static void rememberAndRecall() {
