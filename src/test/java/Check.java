@@ -2,6 +2,7 @@
 final class Check {
     private static int checked = 0;
     private static int wrong = 0;
+    private static String about = "";
 
     private Check() {
     }
@@ -11,11 +12,22 @@ final class Check {
         void make();
     }
 
+    /** Names the promise and the sentence of the document that the checks from here on are of. */
+    static void sentence(String promise, String words) {
+        about = promise + ", \"" + words + "\": ";
+    }
+
+    /** As above, for one of several cases that the sentence has. */
+    static void sentence(String promise, String words, String which) {
+        sentence(promise, words);
+        about = about + which + ": ";
+    }
+
     static void equal(String what, Object got, Object due) {
         checked++;
         if (!due.equals(got)) {
             wrong++;
-            System.out.println(what + ": answered " + got + ", due is " + due);
+            System.out.println(about + what + ": answered " + got + ", due is " + due);
         }
     }
 
@@ -27,12 +39,12 @@ final class Check {
         } catch (RuntimeException e) {
             if (e.getClass() != due) {
                 wrong++;
-                System.out.println(what + ": threw " + e.getClass() + ", due is " + due);
+                System.out.println(about + what + ": threw " + e.getClass() + ", due is " + due);
             }
             return;
         }
         wrong++;
-        System.out.println(what + ": threw nothing, due is " + due);
+        System.out.println(about + what + ": threw nothing, due is " + due);
     }
 
     static void outOfBounds(String what, Call call) {
