@@ -1,3 +1,5 @@
+import java.lang.reflect.Method;
+import java.lang.reflect.Modifier;
 import java.util.Arrays;
 
 /**
@@ -37,6 +39,7 @@ public final class CallsBoundsTest {
         termsChangesNothing();
         termsNothingFromHereOnChangesAnything();
         whatItIs512Calls();
+        whatItIsLaterCalls();
         Check.end("CallsBoundsTest");
     }
 
@@ -48,7 +51,8 @@ public final class CallsBoundsTest {
     }
 
     private static void termsTheOneThatIsNamedFirst() {
-        Check.sentence("Terms", "If several exceptions apply, the one that is named first");
+        Check.sentence("Terms",
+            "If several exceptions apply, the one that is named first in the throws clause is thrown");
         first("addZone 8 0 0", BOUNDS);
         first("addZone 0 -1 61", BOUNDS);
         first("addZone 0 0 0", ARGUMENT);
@@ -112,7 +116,7 @@ public final class CallsBoundsTest {
 
     /** Whatever is asked for, what comes is what the model answers. */
     private static void termsEachCallAtItsLimits() {
-        Check.sentence("Promises 2 to 22", "what each number may be, and each exception");
+        Check.about("What each number may be, and each exception");
         String[] byOne = {"need", "share", "zoneOf", "teamIn"};
         String[] byTwo = {"setDesks", "place", "search", "free", "distance"};
         for (int one : LIMITS) {
@@ -188,7 +192,8 @@ public final class CallsBoundsTest {
     }
 
     private static void whatItIs512Calls() {
-        Check.sentence("What it is", "An object is used for at most 512 calls");
+        Check.sentence("What it is",
+            "An object is used for at most 512 calls after it has been made");
         String[] rows = {
             "setWall 1 1 1", "addZone 6 6 6", "addZone 8 8 8", "setDesks 3 60", "addTeam",
             "setPresent 0 4 7", "setWish 3 3 99", "setTie 1 0 3", "place 3 3", "place 4 -1",
@@ -210,5 +215,32 @@ public final class CallsBoundsTest {
             }
             Check.equal("the 512th call, " + row, answer(p, row), due);
         }
+    }
+
+    /** Free is the answer, but no call may throw what the document has not in its throws clause. */
+    private static void whatItIsLaterCalls() {
+        Check.sentence("What it is", "what later calls answer is free");
+        DeskPlanner p = office();
+        for (int calls = OFFICE.length; calls < 512; calls++) {
+            p.zones();
+        }
+        for (Method call : DeskPlanner.class.getDeclaredMethods()) {
+            if (Modifier.isPublic(call.getModifiers())) {
+                for (int one : LIMITS) {
+                    for (int two : COSTS) {
+                        answersOrThrowsItsOwn(p, call, one, two);
+                    }
+                }
+            }
+        }
+    }
+
+    private static void answersOrThrowsItsOwn(DeskPlanner p, Method call, int one, int two) {
+        Object answer = PlannerCalls.answer(p, call.getName(), one, two, one & 1);
+        boolean asDeclared = answer instanceof Integer;
+        for (Class<?> exception : call.getExceptionTypes()) {
+            asDeclared |= exception.getSimpleName().equals(answer);
+        }
+        Check.equal(call.getName() + " " + one + " " + two + ": " + answer, asDeclared, true);
     }
 }

@@ -10,6 +10,7 @@ public final class FloorBoundsTest {
 
     public static void main(String[] args) {
         termsColumnsAndRows();
+        termsSquareIsAColumnAndARow();
         termsNoWallAtFirst();
         termsStepsAreInTheSameColumnOrRow();
         termsNoWayRoundTheEdge();
@@ -41,7 +42,7 @@ public final class FloorBoundsTest {
     }
 
     private static void termsColumnsAndRows() {
-        Check.sentence("Terms", "the columns 0 to 7 and the rows 0 to 7");
+        Check.sentence("Terms", "The floor has the columns 0 to 7 and the rows 0 to 7");
         for (int column = 0; column < 8; column++) {
             for (int row = 0; row < 8; row++) {
                 DeskPlanner p = new DeskPlanner();
@@ -64,8 +65,25 @@ public final class FloorBoundsTest {
         return count;
     }
 
+    /** Each square has its own wall or none, whatever the others have. */
+    private static void termsSquareIsAColumnAndARow() {
+        Check.sentence("Terms", "a square is a column and a row, with a wall or not");
+        DeskPlanner p = new DeskPlanner();
+        for (int square = 0; square < 64; square++) {
+            p.setWall(square / 8, square % 8, hasWall(square));
+        }
+        for (int square = 0; square < 64; square++) {
+            boolean wall = p.setWall(square / 8, square % 8, !hasWall(square));
+            Check.equal("column " + square / 8 + " row " + square % 8, wall, hasWall(square));
+        }
+    }
+
+    private static boolean hasWall(int square) {
+        return square * square % 13 % 2 == 1;
+    }
+
     private static void termsNoWallAtFirst() {
-        Check.sentence("Terms", "with a wall or not (at first none has one)");
+        Check.sentence("Terms", "(at first none has one)");
         Check.equal("walls at first", countWalls(new DeskPlanner()), 0);
     }
 
@@ -145,7 +163,7 @@ public final class FloorBoundsTest {
 
     private static void termsLeastNumberOfSteps() {
         Check.sentence("Terms",
-            "The distance of two squares without walls is the least number of steps");
+            "The distance of two squares without walls is the least number of steps from the one to the other");
         DeskPlanner p = zonesAt(0, 0, 1, 0, 2, 0, 0, 1);
         Check.equal("beside in the row", p.distance(0, 1), 1);
         Check.equal("beside in the column", p.distance(3, 0), 1);
@@ -159,6 +177,7 @@ public final class FloorBoundsTest {
         Check.equal("the less long one of two", q.distance(0, 1), 8);
         q.setWall(1, 5, false);
         Check.equal("the shorter one of two", q.distance(0, 1), 6);
+        Check.equal("from the other to the one", q.distance(1, 0), 6);
         DeskPlanner snake = zonesAt(0, 0, 0, 7);
         for (int row = 1; row < 7; row += 2) {
             for (int column = 0; column < 8; column++) {

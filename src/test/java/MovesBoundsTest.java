@@ -9,11 +9,14 @@ public final class MovesBoundsTest {
         promise26HowManyThereAre();
         promise26WithoutTeams();
         promise26WhereItDoesNotFit();
+        promise26OnTheWay();
         promise27IntoAnotherZone();
         promise27OutOfAllOrIn();
         promise27OneMoreForEachCircle();
         promise27TeamsThatWereAddedSince();
         promise27WithoutTeams();
+        promise27HowManyMovesItTakes();
+        promise27MovesThatAreMade();
         Check.end("MovesBoundsTest");
     }
 
@@ -180,5 +183,68 @@ public final class MovesBoundsTest {
         Offices.addTeams(p, 7);
         Check.equal("no zone", p.moves(), 0);
         Check.equal("all of them placed, nothing remembered", Offices.full().moves(), 7);
+    }
+
+    /** The circles are counted here by the words: each row of teams that closes. */
+    private static void promise26OnTheWay() {
+        Check.sentence("Promise 26",
+            "Returns how many circles of teams there are on the way to the remembered placement: two teams or more of which each is to come into the zone where the next one is now, the last one into that of the first one");
+        for (int[] target : TARGETS) {
+            for (int[] start : Ways.placements(4)) {
+                DeskPlanner p = from(start, target);
+                Check.equal(Ways.text(start, target), p.circles(), Ways.circles(start, target));
+            }
+        }
+    }
+
+    private static final int[][] TARGETS = {
+        {0, 1, 2, 3}, {2, 3, 1, 0}, {0, 1, 2, -1}, {3, -1, 0, -1}, {-1, -1, 1, -1},
+        {-1, -1, -1, -1},
+    };
+
+    /** Four teams in four zones, the target remembered. */
+    private static DeskPlanner from(int[] start, int[] target) {
+        DeskPlanner p = Offices.withZones(1, 1, 1, 1);
+        Offices.addTeams(p, 4);
+        Offices.lay(p, target);
+        p.remember();
+        Offices.layAnew(p, start);
+        return p;
+    }
+
+    /** All ways are tried by steps of one move, with the room for one team; the shortest is due. */
+    private static void promise27HowManyMovesItTakes() {
+        Check.sentence("Promise 27",
+            "Returns how many moves it takes to come to the remembered placement, if a team moves only into a zone without a team, and there is room for one team outside of all zones");
+        for (int[] target : TARGETS) {
+            for (int[] start : Ways.placements(4)) {
+                DeskPlanner p = from(start, target);
+                Check.equal(Ways.text(start, target), p.moves(),
+                    Ways.shortest(start, target).size());
+            }
+        }
+    }
+
+    /** The shortest way is gone by place, which refuses a zone with a team. */
+    private static void promise27MovesThatAreMade() {
+        Check.sentence("Promise 27",
+            "Returns how many moves it takes to come to the remembered placement", "each made by place");
+        for (int[] target : TARGETS) {
+            for (int[] start : Ways.placements(4)) {
+                DeskPlanner p = from(start, target);
+                int moves = p.moves();
+                int made = 0;
+                for (int[] where : Ways.shortest(start, target)) {
+                    for (int team = 0; team < where.length; team++) {
+                        if (p.zoneOf(team) != where[team]) {
+                            p.place(team, where[team]);
+                            made++;
+                        }
+                    }
+                }
+                Check.equal("moves made " + Ways.text(start, target), made, moves);
+                Check.equal("nothing is left to do", p.recall(), 0);
+            }
+        }
     }
 }

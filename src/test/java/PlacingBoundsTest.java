@@ -14,6 +14,7 @@ public final class PlacingBoundsTest {
         termsCostForEachTwoPlacedTeams();
         termsWithoutTeams();
         termsZoneOfTheTeam0First();
+        termsAndSoOn();
         promise9NoSuchTeamOrZone();
         promise9NoneIsMinusOne();
         promise9AnotherTeamIsInTheZone();
@@ -132,7 +133,7 @@ public final class PlacingBoundsTest {
 
     private static void termsCostForEachTwoPlacedTeams() {
         Check.sentence("Terms",
-            "its wish cost, and for each two placed teams their tie times the distance of their zones");
+            "The cost of a placement is its wish cost, and for each two placed teams their tie times the distance of their zones");
         for (int team = 1; team < 7; team++) {
             for (int other = 0; other < team; other++) {
                 DeskPlanner p = Offices.full();
@@ -169,7 +170,7 @@ public final class PlacingBoundsTest {
     /** Of 1 2 0 and 2 0 1 the team 0 tells, although the team 1 is lower in the second. */
     private static void termsZoneOfTheTeam0First() {
         Check.sentence("Terms",
-            "compared by the zone of the team 0 first, the lower one first, then by that of the team 1");
+            "Placements of all teams are compared by the zone of the team 0 first, the lower one first, then by that of the team 1");
         DeskPlanner p = Offices.withZones(5, 5, 5);
         Offices.addTeams(p, 3);
         Offices.wish(p, 0, 5, 0, 0);
@@ -188,6 +189,29 @@ public final class PlacingBoundsTest {
         Offices.layAnew(p, 2, 1, 0);
         Check.equal("best, the team 0 in one only", p.placeBest(), 0);
         laid(p, "best, by the zone of the team 1", "2 0 1");
+    }
+
+    /** The first teams wish for one zone each, from the last zone on; the others for none. */
+    private static void termsAndSoOn() {
+        Check.sentence("Terms", "then by that of the team 1, and so on");
+        String[] due = {
+            "0 1 2 3 4 5 6", "6 0 1 2 3 4 5", "6 5 0 1 2 3 4", "6 5 4 0 1 2 3", "6 5 4 3 0 1 2",
+            "6 5 4 3 2 0 1", "6 5 4 3 2 1 0",
+        };
+        for (int choosy = 0; choosy < 7; choosy++) {
+            DeskPlanner p = Offices.full();
+            for (int team = 0; team < choosy; team++) {
+                for (int zone = 0; zone < 7; zone++) {
+                    p.setWish(team, zone, zone == 6 - team ? 0 : 1);
+                }
+            }
+            Offices.layAnew(p, 3, 6, 5, 4, 2, 1, 0);
+            Check.equal("by wishes, choosy " + choosy, p.placeByWishes(), 0);
+            laid(p, "by wishes, choosy " + choosy, due[choosy]);
+            Offices.layAnew(p, 3, 6, 5, 4, 2, 1, 0);
+            Check.equal("best, choosy " + choosy, p.placeBest(), 0);
+            laid(p, "best, choosy " + choosy, due[choosy]);
+        }
     }
 
     private static void promise9NoSuchTeamOrZone() {
@@ -666,7 +690,8 @@ public final class PlacingBoundsTest {
     }
 
     private static void promise25EachOfThemBeingTried() {
-        Check.sentence("Promise 25", "the least wish cost of all placements of all teams");
+        Check.sentence("Promise 25",
+            "Returns the least wish cost of all placements of all teams, each of them being tried");
         Check.equal("as much as may be", apart().leastWishCost(), 693);
         DeskPlanner p = Offices.withZones(5, 5, 5);
         Offices.addTeams(p, 2);

@@ -10,6 +10,7 @@ public final class SearchBoundsTest {
     public static void main(String[] args) {
         termsBeginsWithThePlacementThatThereIs();
         termsAlwaysTheBestChange();
+        termsStepByStep();
         termsBothFitIntoTheZoneOfTheOther();
         termsMovesWhereItFits();
         termsZoneWithoutATeam();
@@ -25,6 +26,7 @@ public final class SearchBoundsTest {
         termsEndsWhenItHasMadeItsSteps();
         termsEndsWhenThereIsNoChange();
         termsFirstPlacementIncluded();
+        termsLeastOfAllThatThereWere();
         termsOfSeveralTheEarliest();
         promise12StepsOutOfRange();
         promise12RestOutOfRange();
@@ -77,9 +79,22 @@ public final class SearchBoundsTest {
         searched(wishing(moveByOne, 0, 1), 1, 0, 29, "2 1");
     }
 
+    /** On a way on which each step costs less, one search is as many searches of one step each. */
+    private static void termsStepByStep() {
+        Check.sentence("Terms", "and makes step by step always the best change");
+        DeskPlanner steps = ladder();
+        for (int made = 1; made < 6; made++) {
+            DeskPlanner atOnce = ladder();
+            int cost = atOnce.search(made, 0);
+            Check.equal("the cost of step " + made, steps.search(1, 0), cost);
+            Check.equal("step " + made, Offices.placement(steps), Offices.placement(atOnce));
+        }
+        Check.equal("in the end", Offices.placement(steps), "2 3 5 4");
+    }
+
     private static void termsBothFitIntoTheZoneOfTheOther() {
         Check.sentence("Terms",
-            "either two teams, both of which fit into the zone of the other one");
+            "either two teams, both of which fit into the zone of the other one, exchange their zones");
         exchange("both just fit", 5, 5, 5, 5, 0, "1 0");
         exchange("the lower team does not fit", 5, 4, 5, 1, 100, "0 1");
         exchange("the other team does not fit", 4, 5, 1, 5, 100, "0 1");
@@ -319,11 +334,26 @@ public final class SearchBoundsTest {
     }
 
     private static void termsFirstPlacementIncluded() {
-        Check.sentence("Terms", "the least cost of all that there were, the first one included");
+        Check.sentence("Terms",
+            "The placement with the least cost of all that there were, the first one included");
         int[][] wishes = {{8, FAR, 0}, {FAR, 8, 9}, {9, 9, 0}};
         for (int rest = 0; rest < 6; rest++) {
             searched(wishing(new int[][] {{1, 2, 3}}, 0), 40, rest, 1, "0");
             searched(wishing(wishes, 0, 1, 2), 1, rest, 16, "0 1 2");
+        }
+    }
+
+    /** The one team goes to the zone 1 and then, as it must move, to the zone 2, and back. */
+    private static void termsLeastOfAllThatThereWere() {
+        Check.sentence("Terms",
+            "The placement with the least cost of all that there were", "neither the first nor the last");
+        int[][] alone = {{5, 3, 4}};
+        for (int steps = 1; steps < 8; steps++) {
+            searched(wishing(alone, 0), steps, 0, 3, "1");
+        }
+        int[][] wishes = {{5, 3, FAR, FAR}, {FAR, FAR, 5, 9}};
+        for (int steps = 1; steps < 4; steps++) {
+            searched(wishing(wishes, 0, 2), steps, 5, 8, "1 2");
         }
     }
 
